@@ -416,8 +416,16 @@ public final class CommaStream {
     private void countInGeese() {
         for (int i = 0; i < countedGeese(); i++) {
             Goose goose = book.geese[i];
-            if (takes(goose.flock, probe.takers)) {
-                windows[i].count(goose, probe.hour, book.valueFor(goose, probe), watermark);
+            if (!takes(goose.flock, probe.takers)) {
+                continue;
+            }
+            int value = book.valueFor(goose, probe);
+            if (goose.isLate(probe.hour, watermark)) {
+                windows[i].late++;
+            } else if (goose.gap) {
+                windows[i].countWithGap(goose, probe.hour, value);
+            } else {
+                windows[i].countEvery(goose, probe.hour, value, watermark);
             }
         }
     }
@@ -563,6 +571,23 @@ public final class CommaStream {
             return place >= 0 && place < length && place < bytes.length ? bytes[place] & 255 : -1;
         }
 
+        private int numberIn(int from, int to) {
+            int number = 0;
+            for (int i = from; i < to; i++) {
+                number = number * 10 + byteAt(i) - '0';
+            }
+            return number;
+        }
+
+        /** Eight letters of five bits make one long, so that names are compared as numbers. */
+        private long wordIn(int from, int to) {
+            long word = 0;
+            for (int i = from; i < to; i++) {
+                word = word << 5 | byteAt(i) - 'a' + 1;
+            }
+            return word;
+        }
+
         private boolean stands(String text, int from, int to) {
             if (text.length() != to - from) {
                 return false;
@@ -576,79 +601,97 @@ public final class CommaStream {
         }
     }
 
-    /** Reads the tape token by token, without keeping any but the latest. */
+    /** The tape cut into tokens, and which of them is looked at. */
     private static final class Tokens {
         private final Tape tape = new Tape();
-        private Kind kind = Kind.END;
-        private int start;
-        private int number;
-        private long letters;
-        private int next;
-        private int seen;
+        private final Kind[] kinds = new Kind[MAX_TOKENS + 1];
+        private final int[] starts = new int[MAX_TOKENS + 1];
+        private final int[] numbers = new int[MAX_TOKENS + 1];
+        private final long[] words = new long[MAX_TOKENS + 1];
+        private int size;
+        private int here;
 
-        private void rewind() {
-            next = 0;
-            seen = 0;
-            advance();
-        }
-
-        private boolean is(Kind one) {
-            return kind == one;
-        }
-
-        private void advance() {
-            skipBlanks();
-            start = next;
-            if (start >= tape.length) {
-                kind = Kind.END;
-                return;
-            }
-            seen++;
-            int first = tape.byteAt(start);
-            if (seen > MAX_TOKENS) {
-                kind = Kind.WRONG;
-            } else if (isLetter(first)) {
-                readWord();
-            } else if (isDigit(first)) {
-                readNumber();
-            } else {
-                next = start + 1;
-                kind = kindFrom(Kind.WRONG);
+        /** Ends with the end of the tape or a wrong token, since no book is read beyond one. */
+        private void cut() {
+            size = 0;
+            here = 0;
+            int to = 0;
+            Kind kind = Kind.SEMICOLON;
+            for (int i = 0; i <= MAX_TOKENS && kind != Kind.END && kind != Kind.WRONG; i++) {
+                int from = behindBlanks(to);
+                to = behindToken(from);
+                kind = kindOf(from, to);
+                if (i == MAX_TOKENS && kind != Kind.END) {
+                    kind = Kind.WRONG;
+                }
+                add(kind, from, to);
             }
         }
 
-        private void skipBlanks() {
-            while (next < tape.length && isBlank(tape.byteAt(next))) {
-                next++;
+        private int behindBlanks(int from) {
+            int to = from;
+            while (to < tape.length && isBlank(tape.byteAt(to))) {
+                to++;
             }
+            return to;
         }
 
-        /** Eight letters of five bits make one long, so that names are compared as numbers. */
-        private void readWord() {
-            letters = 0;
-            while (next < tape.length && isLetter(tape.byteAt(next))) {
-                letters = letters << 5 | tape.byteAt(next) - 'a' + 1;
-                next++;
+        private int behindToken(int from) {
+            int to = from;
+            while (to < tape.length && isLetter(tape.byteAt(to))) {
+                to++;
             }
-            kind = next - start > MAX_LETTERS ? Kind.WRONG : kindFrom(Kind.NAME);
+            while (to < tape.length && isDigit(tape.byteAt(from)) && isDigit(tape.byteAt(to))) {
+                to++;
+            }
+            return to > from ? to : Math.min(from + 1, tape.length);
         }
 
-        private void readNumber() {
-            number = 0;
-            while (next < tape.length && isDigit(tape.byteAt(next))) {
-                number = number * 10 + tape.byteAt(next) - '0';
-                next++;
+        private Kind kindOf(int from, int to) {
+            if (from >= to) {
+                return Kind.END;
             }
-            kind = next - start > MAX_DIGITS ? Kind.WRONG : Kind.NUMBER;
-        }
-
-        private Kind kindFrom(Kind otherwise) {
+            int first = tape.byteAt(from);
+            if (isDigit(first)) {
+                return to - from > MAX_DIGITS ? Kind.WRONG : Kind.NUMBER;
+            }
             for (Kind one : KINDS) {
-                if (tape.stands(one.text, start, next)) {
+                if (tape.stands(one.text, from, to)) {
                     return one;
                 }
             }
-            return otherwise;
+            return isLetter(first) && to - from <= MAX_LETTERS ? Kind.NAME : Kind.WRONG;
+        }
+
+        private void add(Kind kind, int from, int to) {
+            if (size >= 0 && size < kinds.length && size < starts.length
+                && size < numbers.length && size < words.length) {
+                kinds[size] = kind;
+                starts[size] = from;
+                numbers[size] = kind == Kind.NUMBER ? tape.numberIn(from, to) : 0;
+                words[size] = kind == Kind.NAME ? tape.wordIn(from, to) : 0;
+                size++;
+            }
+        }
+
+        private Kind kind() {
+            return here >= 0 && here < size && here < kinds.length ? kinds[here] : Kind.END;
+        }
+
+        private int number() {
+            return here >= 0 && here < numbers.length ? numbers[here] : 0;
+        }
+
+        private long word() {
+            return here >= 0 && here < words.length ? words[here] : 0;
+        }
+
+        private boolean skip(Kind kind) {
+            if (here < 0 || here >= size || here >= kinds.length || kinds[here] != kind) {
+                return false;
+            }
+            here++;
+            return true;
         }
 
         private static boolean isBlank(int sign) {
@@ -875,80 +918,65 @@ public final class CommaStream {
         private final Goose unwanted = new Goose();
         private Book book = new Book();
         private int error = NO_ERROR;
+        private int errorToken;
         private int errorAt = -1;
 
         private void read() {
             book.clear();
             error = NO_ERROR;
-            errorAt = -1;
-            tokens.rewind();
-            if (!readMoon() || !readLines()) {
-                error = WRONG_TOKEN;
-                errorAt = tokens.start;
+            tokens.cut();
+            boolean good = readMoon();
+            for (int i = 0; i < MAX_TOKENS && good && tokens.kind() != Kind.END; i++) {
+                good = readLine();
             }
+            if (!good) {
+                error = WRONG_TOKEN;
+                errorToken = tokens.here;
+            }
+            errorAt = error == NO_ERROR ? -1 : at(tokens.starts, errorToken);
         }
 
-        /** Only the first of the errors behind wrong tokens is told. */
+        /** Keeps the first error alone; a token that cannot stand there goes ahead of it nevertheless. */
         private void note(boolean wrong, int number) {
             if (wrong && error == NO_ERROR) {
                 error = number;
-                errorAt = tokens.start;
+                errorToken = tokens.here;
             }
-        }
-
-        private boolean skip(Kind kind) {
-            if (!tokens.is(kind)) {
-                return false;
-            }
-            tokens.advance();
-            return true;
         }
 
         private boolean readMoon() {
-            if (!skip(Kind.MOON)) {
+            if (!tokens.skip(Kind.MOON)) {
                 return true;
             }
             if (!readPhase()) {
                 return false;
             }
-            for (int i = 0; i < MAX_TOKENS && skip(Kind.COMMA); i++) {
+            for (int i = 0; i < MAX_TOKENS && tokens.skip(Kind.COMMA); i++) {
                 if (!readPhase()) {
                     return false;
                 }
             }
-            return skip(Kind.SEMICOLON);
+            return tokens.skip(Kind.SEMICOLON);
         }
 
         private boolean readPhase() {
-            if (!tokens.is(Kind.NUMBER)) {
-                return false;
-            }
             note(book.phases >= MAX_PHASES, TOO_MANY);
-            note(tokens.number > MAX_ALLOWANCE, WRONG_NUMBER);
-            book.addPhase(tokens.number);
-            return skip(Kind.NUMBER);
-        }
-
-        private boolean readLines() {
-            for (int i = 0; i < MAX_TOKENS && !tokens.is(Kind.END); i++) {
-                if (!readLine() || !skip(Kind.SEMICOLON)) {
-                    return false;
-                }
-            }
-            return tokens.is(Kind.END);
+            note(tokens.number() > MAX_ALLOWANCE, WRONG_NUMBER);
+            book.addPhase(tokens.number());
+            return tokens.skip(Kind.NUMBER);
         }
 
         private boolean readLine() {
-            if (skip(Kind.FLOCK)) {
-                return readFlock();
+            if (tokens.skip(Kind.FLOCK)) {
+                return readFlock() && tokens.skip(Kind.SEMICOLON);
             }
-            return skip(Kind.GOOSE) && readGoose();
+            return tokens.skip(Kind.GOOSE) && readGoose() && tokens.skip(Kind.SEMICOLON);
         }
 
         private boolean readFlock() {
-            long name = tokens.letters;
+            long name = tokens.word();
             int from = book.program.size;
-            if (!readNewName(book.flockCount >= MAX_FLOCKS) || !skip(Kind.TAKES) || !readTest(0)) {
+            if (!readNewName(book.flockCount >= MAX_FLOCKS) || !tokens.skip(Kind.TAKES) || !readTest(0)) {
                 return false;
             }
             if (book.flockCount >= 0 && book.flockCount < flockNames.length) {
@@ -963,15 +991,15 @@ public final class CommaStream {
             boolean fits = book.gooseCount >= 0 && book.gooseCount < gooseNames.length
                 && book.gooseCount < book.geese.length;
             Goose goose = fits ? book.geese[book.gooseCount] : unwanted;
-            long name = tokens.letters;
-            if (!readNewName(!fits) || !skip(Kind.ON)) {
+            long name = tokens.word();
+            if (!readNewName(!fits) || !tokens.skip(Kind.ON)) {
                 return false;
             }
             goose.flock = flockHere();
-            if (!readFlockName() || !readWindow(goose)) {
+            if (!readFlockName(goose.flock) || !readWindow(goose)) {
                 return false;
             }
-            if (!skip(Kind.TELLS) || !readTelling(goose)) {
+            if (!tokens.skip(Kind.TELLS) || !readTelling(goose)) {
                 return false;
             }
             if (fits) {
@@ -982,12 +1010,9 @@ public final class CommaStream {
         }
 
         private boolean readNewName(boolean tooMany) {
-            if (!tokens.is(Kind.NAME)) {
-                return false;
-            }
-            note(isTold(tokens.letters), NAME_NOT_NEW);
+            note(isTold(tokens.word()), NAME_NOT_NEW);
             note(tooMany, TOO_MANY);
-            return skip(Kind.NAME);
+            return tokens.skip(Kind.NAME);
         }
 
         private boolean isTold(long name) {
@@ -996,7 +1021,7 @@ public final class CommaStream {
         }
 
         private int flockHere() {
-            return placeIn(flockNames, book.flockCount, tokens.letters);
+            return placeIn(flockNames, book.flockCount, tokens.word());
         }
 
         private static int placeIn(long[] names, int count, long name) {
@@ -1008,51 +1033,43 @@ public final class CommaStream {
             return -1;
         }
 
-        private boolean readFlockName() {
-            if (!tokens.is(Kind.NAME)) {
-                return false;
-            }
-            note(flockHere() < 0, NOT_A_FLOCK);
-            return skip(Kind.NAME);
+        private boolean readFlockName(int flock) {
+            note(flock < 0, NOT_A_FLOCK);
+            return tokens.skip(Kind.NAME);
         }
 
         private boolean readWindow(Goose goose) {
-            goose.gap = tokens.is(Kind.GAP);
-            if (!goose.gap && !tokens.is(Kind.EVERY)) {
+            goose.gap = tokens.skip(Kind.GAP);
+            if (!goose.gap && !tokens.skip(Kind.EVERY)) {
                 return false;
             }
-            tokens.advance();
-            if (!tokens.is(Kind.NUMBER)) {
-                return false;
-            }
-            goose.length = tokens.number;
+            goose.length = tokens.number();
             goose.step = goose.gap ? 1 : goose.length;
             note(goose.length < 1 || goose.length > MAX_LENGTH, WRONG_NUMBER);
-            tokens.advance();
-            return goose.gap || !skip(Kind.STEP) || readStep(goose);
+            if (!tokens.skip(Kind.NUMBER)) {
+                return false;
+            }
+            return goose.gap || !tokens.skip(Kind.STEP) || readStep(goose);
         }
 
         private boolean readStep(Goose goose) {
-            if (!tokens.is(Kind.NUMBER)) {
-                return false;
-            }
-            goose.step = tokens.number;
+            goose.step = tokens.number();
             note(goose.step < 1 || goose.step > goose.length || goose.length / goose.step > MAX_STEPS,
                 WRONG_NUMBER);
-            return skip(Kind.NUMBER);
+            return tokens.skip(Kind.NUMBER);
         }
 
         private boolean readTelling(Goose goose) {
-            goose.telling = tokens.kind;
+            goose.telling = tokens.kind();
             goose.from = book.program.size;
             goose.to = goose.from;
-            if (skip(Kind.COUNT)) {
+            if (tokens.skip(Kind.COUNT)) {
                 return true;
             }
-            if (!skip(Kind.SUM) && !skip(Kind.MOST) && !skip(Kind.LEAST)) {
+            if (!tokens.skip(Kind.SUM) && !tokens.skip(Kind.MOST) && !tokens.skip(Kind.LEAST)) {
                 return false;
             }
-            if (!skip(Kind.OF) || !readValue(0)) {
+            if (!tokens.skip(Kind.OF) || !readValue(0)) {
                 return false;
             }
             goose.to = book.program.size;
@@ -1063,7 +1080,7 @@ public final class CommaStream {
             if (!readBoth(nesting)) {
                 return false;
             }
-            for (int i = 0; i < MAX_TOKENS && skip(Kind.OR); i++) {
+            for (int i = 0; i < MAX_TOKENS && tokens.skip(Kind.OR); i++) {
                 if (!readBoth(nesting)) {
                     return false;
                 }
@@ -1076,7 +1093,7 @@ public final class CommaStream {
             if (!readSingle(nesting)) {
                 return false;
             }
-            for (int i = 0; i < MAX_TOKENS && skip(Kind.AND); i++) {
+            for (int i = 0; i < MAX_TOKENS && tokens.skip(Kind.AND); i++) {
                 if (!readSingle(nesting)) {
                     return false;
                 }
@@ -1087,7 +1104,7 @@ public final class CommaStream {
 
         private boolean readSingle(int nesting) {
             boolean turned = false;
-            for (int i = 0; i < MAX_TOKENS && skip(Kind.NOT); i++) {
+            for (int i = 0; i < MAX_TOKENS && tokens.skip(Kind.NOT); i++) {
                 turned = !turned;
             }
             if (!readKept(nesting)) {
@@ -1100,26 +1117,20 @@ public final class CommaStream {
         }
 
         private boolean readKept(int nesting) {
-            if (tokens.is(Kind.OPEN_TEST)) {
-                return nesting < MAX_NESTING && skip(Kind.OPEN_TEST)
-                    && readTest(nesting + 1) && skip(Kind.CLOSE_TEST);
+            if (tokens.kind() == Kind.OPEN_TEST) {
+                return nesting < MAX_NESTING && tokens.skip(Kind.OPEN_TEST)
+                    && readTest(nesting + 1) && tokens.skip(Kind.CLOSE_TEST);
             }
-            if (skip(Kind.IN)) {
-                book.program.add(Kind.IN, flockHere());
-                return readFlockName();
+            if (tokens.skip(Kind.IN)) {
+                int flock = flockHere();
+                book.program.add(Kind.IN, flock);
+                return readFlockName(flock);
             }
-            return readComparison(nesting);
-        }
-
-        private boolean readComparison(int nesting) {
             if (!readValue(nesting)) {
                 return false;
             }
-            Kind sign = tokens.kind;
-            if (!skip(Kind.LESS) && !skip(Kind.GREATER) && !skip(Kind.EQUAL)) {
-                return false;
-            }
-            if (!readValue(nesting)) {
+            Kind sign = tokens.kind();
+            if (!isOrder(sign) || !tokens.skip(sign) || !readValue(nesting)) {
                 return false;
             }
             book.program.add(sign, 0);
@@ -1130,13 +1141,13 @@ public final class CommaStream {
             if (!readProduct(nesting)) {
                 return false;
             }
-            Kind sign = tokens.kind;
-            for (int i = 0; i < MAX_TOKENS && (skip(Kind.PLUS) || skip(Kind.MINUS)); i++) {
+            Kind sign = tokens.kind();
+            for (int i = 0; i < MAX_TOKENS && (tokens.skip(Kind.PLUS) || tokens.skip(Kind.MINUS)); i++) {
                 if (!readProduct(nesting)) {
                     return false;
                 }
                 book.program.add(sign, 0);
-                sign = tokens.kind;
+                sign = tokens.kind();
             }
             return true;
         }
@@ -1145,7 +1156,7 @@ public final class CommaStream {
             if (!readAtom(nesting)) {
                 return false;
             }
-            for (int i = 0; i < MAX_TOKENS && skip(Kind.TIMES); i++) {
+            for (int i = 0; i < MAX_TOKENS && tokens.skip(Kind.TIMES); i++) {
                 if (!readAtom(nesting)) {
                     return false;
                 }
@@ -1155,15 +1166,19 @@ public final class CommaStream {
         }
 
         private boolean readAtom(int nesting) {
-            if (tokens.is(Kind.OPEN)) {
-                return nesting < MAX_NESTING && skip(Kind.OPEN)
-                    && readValue(nesting + 1) && skip(Kind.CLOSE);
+            if (tokens.kind() == Kind.OPEN) {
+                return nesting < MAX_NESTING && tokens.skip(Kind.OPEN)
+                    && readValue(nesting + 1) && tokens.skip(Kind.CLOSE);
             }
-            if (!isOperand(tokens.kind)) {
+            if (!isOperand(tokens.kind())) {
                 return false;
             }
-            book.program.add(tokens.kind, tokens.number);
-            return skip(tokens.kind);
+            book.program.add(tokens.kind(), tokens.number());
+            return tokens.skip(tokens.kind());
+        }
+
+        private static boolean isOrder(Kind kind) {
+            return kind == Kind.LESS || kind == Kind.GREATER || kind == Kind.EQUAL;
         }
 
         private static boolean isOperand(Kind kind) {
@@ -1184,16 +1199,6 @@ public final class CommaStream {
         private void clear() {
             size = 0;
             late = 0;
-        }
-
-        private void count(Goose goose, int hour, int value, int watermark) {
-            if (goose.isLate(hour, watermark)) {
-                late++;
-            } else if (goose.gap) {
-                countWithGap(goose, hour, value);
-            } else {
-                countEvery(goose, hour, value, watermark);
-            }
         }
 
         private void countEvery(Goose goose, int hour, int value, int watermark) {
