@@ -220,6 +220,11 @@ public final class BookTest {
         due("flock a takes not not 1=1 not;", 1, 26);
         due("flock a takes 1=1 and;", 1, 21);
         due("flock a takes 1=1 or or 1=1;", 1, 21);
+        due("flock a takes 1=1 or;", 1, 20);
+        due("flock a takes 1=1+;", 1, 18);
+        due("flock a takes 1=1*;", 1, 18);
+        due("flock;", 1, 5);
+        due("flock a;", 1, 7);
         due("flock a takes and 1=1;", 1, 14);
         due("flock a takes [1=1;", 1, 18);
         due("flock a takes [1]=1;", 1, 16);
@@ -237,6 +242,10 @@ public final class BookTest {
         fine("flock a takes not not not [1=1 or not 2>1 and [3<4]] and not 0=1;");
         fine("flock a takes ((1+2)*(3-hour)-1)*2>weight*(wing+kind);");
         due(FLOCK + "goose", 1, 23);
+        due(FLOCK + "goose;", 1, 23);
+        due(FLOCK + "goose g;", 1, 25);
+        due(FLOCK + "goose g on;", 1, 28);
+        due(FLOCK + "goose g on a;", 1, 30);
         due(FLOCK + "goose on a every 5 tells count;", 1, 24);
         due(FLOCK + "goose g a every 5 tells count;", 1, 26);
         due(FLOCK + "goose g on every 5 tells count;", 1, 29);
@@ -284,6 +293,8 @@ public final class BookTest {
         due(FLOCK + "goose g on b gap 5 tells count;flock b takes 1=1;", 3, 29);
         due(FLOCK + "goose g on a gap 5 tells count;flock b takes in g;", 3, 66);
         due(FLOCK + "goose g on a gap 5 tells count;goose h on g gap 5 tells count;", 3, 60);
+        fine("flock baaaaaaa takes 1=1;flock aaaaaaaa takes 1=1;flock aaaaaaab takes in aaaaaaaa;");
+        due("flock baaaaaaa takes 1=1;flock aaaaaaab takes in aaaaaaaa;", 3, 49);
         due("flock abcdefgh takes 1=1;flock b takes in abcdefg;", 3, 42);
         due("flock a takes 1=1;flock z takes 1=1;flock b takes in az;", 3, 53);
     }

@@ -215,6 +215,7 @@ public final class ComingTest {
         CHECK.same("lateFor(1) with 12", x.lateFor(1), 1);
         CHECK.same("openWindows(1)", x.openWindows(1), 1);
         windowIs(x, 1, 0, 12, 24, 1);
+        CHECK.same("tellings() of windows that were over", x.tellings(), 0);
         x.comma(5, 0, 0, 0);
         CHECK.same("lateFor(1) with none of its flock", x.lateFor(1), 1);
         CHECK.same("lateFor(0) with 5", x.lateFor(0), 3);

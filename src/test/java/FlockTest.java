@@ -80,6 +80,7 @@ public final class FlockTest {
         CHECK.same("isIn(6, 0)", x.isIn(6, 0), false);
         CHECK.same("isIn(0, 1)", x.isIn(0, 1), true);
         CHECK.same("sizeOf(7)", x.sizeOf(7), 1);
+        CHECK.same("latestIn(7)", x.latestIn(7), 0);
         CHECK.same("latestIn(0)", x.latestIn(0), 1);
         CHECK.same("latestIn(3)", x.latestIn(3), -1);
         CHECK.same("flocksOf(2)", x.flocksOf(2), 0);
