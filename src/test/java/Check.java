@@ -38,7 +38,7 @@ final class Check {
 
     private void throwsExactly(Class<?> due, CommaStream stream, String call, Runnable run) {
         seen++;
-        long before = stream.digest();
+        String before = told(stream);
         Class<?> got = null;
         try {
             run.run();
@@ -48,9 +48,20 @@ final class Check {
         if (got != due) {
             complain(call + " threw " + got + ", due is " + due);
         }
-        if (stream.digest() != before) {
+        if (!told(stream).equals(before)) {
             complain(call + " threw and changed something");
         }
+    }
+
+    /** What the digest leaves out is told behind it; of the commas the last one, for few calls. */
+    static String told(CommaStream stream) {
+        StringBuilder text = new StringBuilder();
+        text.append(stream.digest()).append(' ').append(stream.errorAt()).append(' ').append(stream.meanCount());
+        int last = stream.commas() - 1;
+        if (last >= 0) {
+            text.append(' ').append(stream.hourOf(last)).append(' ').append(stream.flocksOf(last));
+        }
+        return text.toString();
     }
 
     private void complain(String text) {
