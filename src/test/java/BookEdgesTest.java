@@ -30,6 +30,7 @@ public final class BookEdgesTest {
         firstError();
         errorsLeaveAll();
         booksOneBehindTheOther();
+        longestBooks();
         errorAtStays();
         CHECK.end();
     }
@@ -528,6 +529,23 @@ public final class BookEdgesTest {
             }
             CHECK.same("passNights in book " + i, x.passNights(3), fresh.passNights(3));
             CHECK.same("digest() in book " + i, x.digest(), fresh.digest());
+        }
+    }
+
+    /** Books of 400 tokens, and errors in such ones, leave room for the next. */
+    private static void longestBooks() {
+        // 5 tokens, 196 times 2, and 3 are 400
+        String sum = "flock a takes not hour" + "+1".repeat(196) + "=";
+        CommaStream x = new CommaStream();
+        for (int i = 0; i < 5; i++) {
+            feed(x, sum + (196 + i) + ";");
+            CHECK.same("teach() of 400 tokens", x.teach(), 0);
+            CHECK.same("wouldTake of the hour of 400 tokens", x.wouldTake(0, i, 0, 0, 0), false);
+            CHECK.same("wouldTake of another hour", x.wouldTake(0, i + 1, 0, 0, 0), true);
+            feed(x, sum + "1;;");
+            CHECK.same("teach() of 401 tokens", x.teach(), 1);
+            CHECK.same("wouldTake behind 401 tokens", x.wouldTake(0, i, 0, 0, 0), false);
+            CHECK.same("wouldTake of another hour behind 401", x.wouldTake(0, i + 1, 0, 0, 0), true);
         }
     }
 
