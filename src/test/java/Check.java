@@ -24,6 +24,13 @@ final class Check {
         }
     }
 
+    void sameText(String call, String got, String want) {
+        seen++;
+        if (!got.equals(want)) {
+            complain(call + " answered " + got + ", due is " + want);
+        }
+    }
+
     void throwsState(CommaStream stream, String call, Runnable run) {
         throwsExactly(IllegalStateException.class, stream, call, run);
     }
